@@ -466,7 +466,7 @@ public final class GenerationalHeap {
         }
 
         int sizeOf(int id) {
-            return 1 + fieldsOf(id);
+            return id >= 0 && id < MAX_OBJECTS ? 1 + fieldCounts[id] : 0;
         }
 
         int colourOf(int id) {
@@ -716,8 +716,7 @@ public final class GenerationalHeap {
             }
             greyQueue.clear();
             state = MARKING;
-            scanRoots();
-            return greyQueue.size();
+            return scanRoots();
         }
 
         /** Performs units and answers the number of freed objects, or why there is no step. */
@@ -730,27 +729,21 @@ public final class GenerationalHeap {
             }
             int before = table.oldObjects();
             for (int unit = 0; unit < budget && state != IDLE; unit++) {
-                if (state == MARKING) {
-                    markUnit();
-                } else {
+                if (state == SWEEPING) {
                     sweepUnit();
+                } else if (greyQueue.size() > 0) {
+                    markUnit();
+                } else if (scanRoots() == 0) {
+                    startSweeping();
                 }
             }
             return before - table.oldObjects();
         }
 
         private void markUnit() {
-            if (greyQueue.size() > 0) {
-                int id = greyQueue.takeFirst();
-                shadeFields(id);
-                table.paint(id, BLACK);
-                return;
-            }
-            scanRoots();
-            if (greyQueue.size() == 0) {
-                listOldObjects();
-                state = SWEEPING;
-            }
+            int id = greyQueue.takeFirst();
+            shadeFields(id);
+            table.paint(id, BLACK);
         }
 
         private void sweepUnit() {
@@ -766,7 +759,8 @@ public final class GenerationalHeap {
             }
         }
 
-        private void listOldObjects() {
+        private void startSweeping() {
+            state = SWEEPING;
             sweepList.clear();
             for (int id = 0; id < MAX_OBJECTS; id++) {
                 if (table.inOldGeneration(id)) {
@@ -775,7 +769,8 @@ public final class GenerationalHeap {
             }
         }
 
-        private void scanRoots() {
+        /** Performs a root scan and answers the number of grey objects behind it. */
+        private int scanRoots() {
             for (int index = 0; index < ROOT_COUNT; index++) {
                 shade(heap.rootAt(index));
             }
@@ -783,6 +778,7 @@ public final class GenerationalHeap {
             for (int index = 0; index < nursery.size(); index++) {
                 shadeFields(nursery.at(index));
             }
+            return greyQueue.size();
         }
 
         private void shadeFields(int id) {

@@ -48,13 +48,13 @@ public final class MutatorTest {
         due.is("oldCount() at age 1", heap.oldCount(), 0);
         heap.minorCollection();
         due.is("oldCount() at age 2", heap.oldCount(), 4);
-        due.is("oldWords() with 60 words for old objects", fillOld(), 60);
+        fillOld();
     }
 
-    private static int fillOld() {
+    private static void fillOld() {
         GenerationalHeap heap = new GenerationalHeap();
         int chain = NULL;
-        for (int k = 0; k < 15; k++) {
+        for (int k = 0; k < 12; k++) {
             int id = heap.allocate(4);
             heap.write(id, 0, chain);
             heap.setRoot(0, id);
@@ -62,7 +62,13 @@ public final class MutatorTest {
             heap.minorCollection();
             chain = id;
         }
-        return heap.oldWords();
+        due.is("oldWords() of twelve objects", heap.oldWords(), 60);
+        due.is("promotionFailures() until full", heap.promotionFailures(), 0);
+        heap.setRoot(1, heap.allocate(0));
+        heap.minorCollection();
+        heap.minorCollection();
+        due.is("oldWords() when full", heap.oldWords(), 60);
+        due.is("promotionFailures() when full", heap.promotionFailures(), 1);
     }
 
     private static void resetEmptiesTheHeap() {
@@ -93,6 +99,8 @@ public final class MutatorTest {
             + heap.oldWords() + heap.phase(), 0);
         due.is("a digest that knows no minor collection", heap.digest(), freshDigest());
         due.is("ids start again", heap.allocate(4), 0);
+        due.is("age(0)", heap.age(0), 0);
+        due.is("reference(0, 0)", heap.reference(0, 0), NULL);
         due.is("describe(0)", heap.describe(0), "#0 young age=0 [-,-,-,-]".length());
         due.is("startMajor() after a reset", heap.startMajor(), 0);
     }

@@ -105,6 +105,10 @@ public final class QueryTest {
         due.is("not from what isn't reachable", heap.reachableCount(), 3);
         heap.setRoot(2, 3);
         due.is("from all roots", heap.reachableCount(), 5);
+        heap.write(0, 0, NULL);
+        heap.setRoot(0, NULL);
+        heap.setRoot(3, NULL);
+        due.is("counted anew each time", heap.reachableCount(), 3);
 
         GenerationalHeap chain = new GenerationalHeap();
         chain.reset(64, 128, 1);

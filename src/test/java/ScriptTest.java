@@ -10,6 +10,7 @@ public final class ScriptTest {
         failingCommands();
         nothingRunsBeforeAllIsParsed();
         fullTexts();
+        oneObjectRunsManyScripts();
         due.end();
     }
 
@@ -57,6 +58,10 @@ public final class ScriptTest {
         wrongAt("minorstart;", 0);
         wrongAt("minor;foo 1;", 6);
         wrongAt("minor; mino;", 7);
+        wrongAt("xinor;", 0);
+        wrongAt("minox;", 0);
+        wrongAt("xlloc 1;", 0);
+        wrongAt("stap 1;", 0);
         wrongAt("Minor;", 0);
         wrongAt("minoR;", 0);
         wrongAt("allocA", 5);
@@ -181,6 +186,19 @@ public final class ScriptTest {
         GenerationalHeap heap = new GenerationalHeap();
         due.is("runScript()", Calls.run(heap, "alloc 0;alloc 0;alloc 5;start"), -10 - 29);
         due.is("youngCount()", heap.youngCount(), 0);
+    }
+
+    private static void oneObjectRunsManyScripts() {
+        GenerationalHeap heap = new GenerationalHeap();
+        due.is("a wrong script", Calls.run(heap, "minor;mino;"), -10 - 6);
+        due.is("the same again", heap.runScript(), -10 - 6);
+        due.is("a good one", Calls.run(heap, "minor;minor;"), 2);
+        due.is("a failing one", Calls.run(heap, "minor;step1;"), -1001);
+        due.is("a good one", Calls.run(heap, "alloc 1;"), 1);
+        due.is("the same again", heap.runScript(), 1);
+        due.is("a shorter text than before", Calls.run(heap, "alloc"), -10 - 5);
+        due.is("no text", Calls.run(heap, ""), -10);
+        due.is("youngCount()", heap.youngCount(), 2);
     }
 
     private static void fullTexts() {
