@@ -1,5 +1,6 @@
 import java.lang.reflect.InvocationTargetException;
 import java.lang.reflect.Method;
+import java.util.Arrays;
 import java.util.regex.Matcher;
 import java.util.regex.Pattern;
 
@@ -111,7 +112,7 @@ final class Run {
 
     private long invoke(String name, Object[] values) {
         Class<?>[] kinds = new Class<?>[values.length];
-        java.util.Arrays.fill(kinds, int.class);
+        Arrays.fill(kinds, int.class);
         try {
             Method method = GenerationalHeap.class.getMethod(name, kinds);
             return ((Number) method.invoke(heap, values)).longValue();
