@@ -124,7 +124,10 @@ final class Run {
     }
 
     Run type(String text) {
-        does("clearText()");
+        return does("clearText()").append(text);
+    }
+
+    Run append(String text) {
         for (int k = 0; k < text.length(); k++) {
             ask("append(" + (int) text.charAt(k) + ")");
         }
